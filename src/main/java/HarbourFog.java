@@ -272,7 +272,6 @@ public final class HarbourFog {
       throws IndexOutOfBoundsException, IllegalArgumentException {
     needCell(x, y);
     needStep(from);
-    needStep(to);
     needRange(to, from, STEPS - 1);
     base.upTo(to);
     int some = 0;

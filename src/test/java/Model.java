@@ -1229,6 +1229,14 @@ public final class Model {
     return gauges.size();
   }
 
+  /** FOG on a CELL behind a STEP, with a duel. */
+  int duelled(int duelStep, int duelX, int duelY, int x, int y, int step) {
+    Story story = new Story();
+    story.duelStep = duelStep;
+    story.duel = new Spot(duelX, duelY);
+    return story.run().at(new Spot(x, y), step);
+  }
+
   private boolean right(Story story) {
     return gauges.stream().allMatch(g -> story.at(g.at, g.step) == g.yards);
   }

@@ -48,6 +48,9 @@ public final class ModelTest {
       ModelTest test = new ModelTest(i);
       test.run(i);
       test.answers.forEach((name, n) -> all.merge(name, n, Integer::sum));
+      ModelTest duels = new ModelTest(1000000L + i);
+      duels.seek(i);
+      duels.answers.forEach((name, n) -> all.merge(name, n, Integer::sum));
     }
     if (args.length > 2) {
       System.out.println(all);
@@ -74,8 +77,43 @@ public final class ModelTest {
         if (call[0].equals("found") && below(4) > 0 || call[0].equals("clear") && below(6) > 0) {
           continue;
         }
+        if (below(3) == 0) {
+          ask("set", "xyY");
+        }
         ask(call[0], call.length > 1 ? call[1].replace(" ", "") : "");
         calls++;
+      }
+    }
+  }
+
+  /** Small ports with GAUGES that tell of a duel, and what is found by them. */
+  private void seek(int number) {
+    told.append("duels ").append(number).append('\n');
+    do {
+      tape(texts.port(), "port");
+    } while (model.told(0) * model.told(1) > 20 || model.sums(2, 0) == 0);
+    for (int i = 0; i < 4; i++) {
+      compare("clear", new Object[0]);
+      int duelStep = below(4);
+      int[] duel = {below(model.told(0)), below(model.told(1))};
+      for (int tries = 0; tries < 9 && model.fog(duel[0], duel[1], duelStep) == 0; tries++) {
+        duelStep = below(4);
+        duel = new int[] {below(model.told(0)), below(model.told(1))};
+      }
+      int gauges = 1 + below(5);
+      for (int j = 0; j < gauges; j++) {
+        int x = below(model.told(0));
+        int y = below(model.told(1));
+        int step = below(4) == 0 ? below(4) : Math.min(39, duelStep + below(8));
+        int yards = model.duelled(duelStep, duel[0], duel[1], x, y, step);
+        compare("gauge", new Object[] {x, y, step, below(25) == 0 ? below(100) : yards});
+      }
+      compare("found", new Object[] {below(3)});
+      compare("found", new Object[] {below(3)});
+      compare("right", new Object[0]);
+      if (below(2) == 0) {
+        compare("set", new Object[] {below(model.told(0)), below(model.told(1)), below(30)});
+        compare("found", new Object[] {below(3)});
       }
     }
   }
