@@ -720,6 +720,13 @@ public final class PromiseTest {
     Check.bad("enough many", () -> f.enough(0, 0, 1, 0, 41));
     Check.none("enough 1", () -> f.enough(1, 100, 1, 0, 1));
     Check.is("enough 99", 1, () -> f.enough(0, 99, 1, 0, 1));
+    HarbourFog g = Check.at("port 3 3;sight 99;watch 1 1;walk 1 1 0 o;");
+    Check.is("enough of 98", 0, () -> g.enough(0, 98, 1, 0, 5));
+    Check.is("enough of 99", 5, () -> g.enough(0, 99, 1, 0, 5));
+    Check.is("sure of 99", 99, () -> g.sure(0, 1, 1, 0, 5));
+    HarbourFog h = Check.at("port 3 3;walk 1 1 0 o;");
+    Check.is("enough of none", 40, () -> h.enough(0, 0, 1, 8, 40));
+    Check.is("sure of none", 0, () -> h.sure(0, 40, 1, 8, 40));
     Check.bad("sure k 0", () -> f.sure(0, 0, 1, 0, 3));
     Check.bad("sure k beyond many", () -> f.sure(0, 4, 1, 0, 3));
     Check.bad("sure q", () -> f.sure(0, 1, 1, -1, 3));
@@ -1043,6 +1050,11 @@ public final class PromiseTest {
     Check.is("sold as told", 0, () -> f.sold(0, 0, 1));
     Check.is("nothing there: the least", 0, () -> f.asked(1, 0, 1, 0));
     Check.is("nothing there: nothing", 0, () -> f.asked(1, 0, 1, 1));
+    HarbourFog g = Check.at("port 3 2;fog 0 0 0 0 30;lot 0 0 0 0 0 0;");
+    g.bid(0, 10, 60);
+    g.bid(0, 10, 8);
+    Check.is("asked: only the greatest F keeps the second out", 9, () -> g.asked(0, 0, 1, 0));
+    Check.is("asked: what the first brings alone", 600, () -> g.asked(0, 0, 1, 1));
     Check.none("asked 2", () -> f.asked(2, 40, 0, 0));
     Check.bad("asked step", () -> f.asked(0, 40, 0, 0));
     Check.bad("asked way", () -> f.asked(0, 0, 2, 0));
@@ -1120,6 +1132,9 @@ public final class PromiseTest {
     Check.is("guards in 39", 1, () -> Check.at(two).guards());
     Check.is("buy in 39", 1, () -> Check.at(two).buy(0, 0));
     Check.is("cost in 39", 3, () -> Check.at(two).buy(0, 1));
+    String hidden = late + "walk 1 0 39 o;sight 8;";
+    Check.is("often not in 39", 0, () -> Check.at(hidden + "walk 3 0 39 o;").often(0, 1));
+    Check.is("guards not in 39", 0, () -> Check.at(hidden + "watch 3 0;").guards());
     Check.is("hid not in 39", 0, () -> Check.at(two).hid(0));
     Check.is("hid in 39", 1, () -> Check.at(two + "sight 8;").hid(0));
     Check.is("way in 39", 1, () -> Check.at(two).way(1, 1, 39, 0));

@@ -68,6 +68,12 @@ public final class TextTest {
     port(STRANGE, "port 3 3;^;");
     port(STRANGE, "^ports 3 3;");
     port(STRANGE, "^por 3 3;");
+    port(STRANGE, "^portz 3 3;");
+    port(STRANGE, "^porta 3 3;");
+    port(STRANGE, "port^{3 3;");
+    port(STRANGE, "port^`3 3;");
+    port(STRANGE, "port 3^:3;");
+    port(STRANGE, "port 3^/3;");
     port(STRANGE, "^Port 3 3;");
     port(STRANGE, "^5;");
     port(STRANGE, "port ^x 3;");
