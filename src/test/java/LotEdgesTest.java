@@ -206,6 +206,11 @@ public final class LotEdgesTest {
         "light 0 1 1 = -1", "light 0 1 0 = -1");
     Calls.at("row by row", "port 9 9;fog 7 7 7 7 9;ship 7 0;").due("light 0 9 0 = 66", "light 0 9 1 = 0",
         "set 7 8 9 = 0", "light 0 9 0 = 76", "set 8 8 50 = 0", "light 0 9 0 = 76");
+    // a lamp beside or below the port would leave yards that a steamer parts with nothing over
+    Calls.at("on a cell of the port, not beside it", "port 2 2;fog 1 0 1 0 11;fog 0 1 0 1 4;steamer 1 1 1;ship 1 2;")
+        .due("light 0 2 0 = 0", "light 0 2 1 = 2");
+    Calls.at("nor below it", "port 2 2;fog 0 1 0 1 4;fog 0 0 0 0 17;steamer 1 0 1;ship 0 5;").due("light 0 1 0 = 0",
+        "light 0 1 1 = 2");
     Calls.at("sooner on a later cell", "port 9 2;fog 7 1 7 1 9;wind 0 2 1 8;wind 1 0 1 8;wind 2 1 1 0;ship 7 8;ship 8 8;")
         .due("light 0 1 1 = 0", "light 0 1 0 = 0", "light 1 1 0 = 7", "light 1 1 1 = 0");
   }
